@@ -1552,7 +1552,7 @@ public final class TwoLevel {
         }
     }
 
-    /** The best doings of some days: all rows of doings are tried, in the order in which the first of several counts. */
+    /** The best doings of some days: all rows of doings are tried, those that would be first of several ahead. */
     private static final class Planner {
         /** Whether what was found last still holds. */
         boolean isFresh = false;
