@@ -109,6 +109,11 @@ final class AheadTest {
         CHECK.due("201", x.cheap(0), -2);
         CHECK.due("201", x.few(0), -2);
         CHECK.due("201", x.alone(0, 0), -2);
+        x = Check.told("kind a 1 0;has 0 a -98;has 1 a 99;deed one a 1 0 0;");
+        for (int more = 197; more <= 201; more++) {
+            CHECK.due("twin 1 has more by " + more, x.few(0), more <= 200 ? more : -2);
+            x.does(1, 0, true);
+        }
         // 195 and 9s alone: 200 would have to be passed
         x = Check.told("kind a 1 0;has 0 a 99;has 1 a -96;deed up a 7 1 0;deed big a 9 1 0;");
         CHECK.due("alone(0, 0): only away", x.alone(0, 0), -2);
@@ -145,6 +150,19 @@ final class AheadTest {
         CHECK.due("found anew behind exchange", x.plan(0, 1, 4), 9);
         x.back();
         CHECK.due("found anew behind back", x.plan(0, 1, 4), 5);
+        Check.tell(x, "kind a 1 0;has 0 a 7;deed d a -1 0 0;do 0 d 0;law luck 100;");
+        CHECK.due("found anew behind a text", x.plan(0, 1, 4), 5);
+        Check.tell(x, "kind a 1 0;has 0 a 8;deed d a -1 0 0;do 0 d 0;law luck 100;");
+        CHECK.due("found anew behind another text", x.plan(0, 1, 4), 6);
+        x.go(1);
+        CHECK.due("found anew behind a day", x.plan(0, 1, 4), 6);
+        x.go(1);
+        x.does(0, 0, true);
+        CHECK.due("plan(0, 1, 4)", x.plan(0, 1, 4), 5);
+        Check.tell(x, "kind a 1 1;has 0 a 8;");
+        CHECK.due("plan(0, 2, 4)", x.plan(0, 2, 4), 6);
+        x.go(1);
+        CHECK.due("found anew behind a day that heals", x.plan(0, 2, 4), 5);
         int[][] wrong = {{2, 1, 0}, {-1, 1, 0}, {0, 0, 0}, {0, 5, 0}, {0, 1, 5}, {0, 1, -1}};
         for (int[] w : wrong) {
             CHECK.due("plan(" + w[0] + ", " + w[1] + ", " + w[2] + ")", x.plan(w[0], w[1], w[2]), -1);

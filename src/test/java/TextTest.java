@@ -110,6 +110,20 @@ final class TextTest {
         CHECK.faulty("law luck 1 >< 2;", 1, 12);
         CHECK.faulty("law luck 1 <=> 2;", 1, 13);
         CHECK.faulty("law luck 1 ! 2;", 1, 11);
+        CHECK.faulty("law luck 1 <=", 1, 13);
+        CHECK.faulty(";".repeat(700), 1, 0);
+        cutShort("dox", 2, 1, 2);
+        cutShort("wage 0 99;", 8, 1, 8);
+        cutShort("law luck 1 <=2;", 12, 1, 12);
+    }
+
+    /** More than the first n bytes is on the tape, and doesn't count. */
+    private static void cutShort(String text, int n, int fault, int place) {
+        TwoLevel x = new TwoLevel();
+        Check.feed(x, text.getBytes(java.nio.charset.StandardCharsets.ISO_8859_1));
+        CHECK.due("text(" + n + ") of " + text, x.text(n), -1);
+        CHECK.due("fault(0) of " + n + " of " + text, x.fault(0), fault);
+        CHECK.due("fault(1) of " + n + " of " + text, x.fault(1), place);
     }
 
     private static void misplaced() {
@@ -139,6 +153,9 @@ final class TextTest {
         CHECK.faulty("seed a;", 1, 5);
         CHECK.faulty("law", 1, 3);
         CHECK.faulty("law day 1;", 1, 4);
+        CHECK.faulty("law or 1;", 1, 4);
+        CHECK.faulty("law wage 1;", 1, 4);
+        CHECK.faulty("law law 1;", 1, 4);
         CHECK.faulty("law gap gap;", 1, 4);
         CHECK.faulty("kind a 1 1;law luck a;", 1, 20);
         CHECK.faulty("law luck 1 + not 1;", 1, 13);
@@ -162,6 +179,7 @@ final class TextTest {
     private static void tooMuch() {
         CHECK.fine("kind a 9 9;", 1);
         CHECK.faulty("kind a 10 1;", 2, 7);
+        CHECK.faulty("kind a 1 10;", 2, 9);
         CHECK.faulty("kind a 1 99999999999999999999;", 2, 9);
         CHECK.fine("kind a 1 1;has 1 a 99;has 1 a -99;", 3);
         CHECK.faulty("kind a 1 1;has 1 a 100;", 2, 19);
@@ -294,5 +312,22 @@ final class TextTest {
         value("(1000*1000*1000*1000)*0", 0);
         value("0*(1000*1000*1000*1000)", 0);
         value("1000*1000*1000*1000/(0-1)", -1000000000000L);
+        // 2 to the 32 squared would be 0 in a long
+        value("(256*256*256*256)*(256*256*256*256)", Long.MIN_VALUE);
+        value("not ".repeat(63) + "7", 0);
+        value("(".repeat(8) + "not ".repeat(62) + "7" + ")".repeat(8), 1);
+        value("1-(2-(3-(4-(5-(6-(7-(8-(9))))))))", 5);
+        oftenTold();
+    }
+
+    /** Many texts one behind another leave room for the knots of the last one. */
+    private static void oftenTold() {
+        TwoLevel x = new TwoLevel();
+        for (int i = 0; i < 9; i++) {
+            CHECK.due("text " + i, Check.tell(x, "kind k 1 1;law heal 1" + "+1".repeat(20) + ";law apart " + i + "*2;"), 3);
+            CHECK.due("knots of text " + i, x.count(3), 44);
+            CHECK.due("heal of text " + i, x.law(1, 0, 0), 21);
+            CHECK.due("apart of text " + i, x.law(0, 0, 0), 2 * i);
+        }
     }
 }
