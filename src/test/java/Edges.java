@@ -36,12 +36,12 @@ final class Edges {
         begin("Terms " + n, n == 1 ? "## Terms" : "==== " + n + ".", n == 4 ? "## Promise 1:" : "==== " + (n + 1) + ".");
     }
 
-    /** The promise of this method, its number and its signature left out. */
-    void promise(int n, String method) {
+    /** The promise of this heading, what stands in its signature left out. */
+    void promise(int n, String heading) {
         String next = n == 49 ? "## Not promised" : "## Promise " + (n + 1) + ":";
-        begin("Promise " + n, "## Promise " + n + ": " + method, next);
+        begin("Promise " + n, "## Promise " + n + ": " + heading, next);
         int behind = section.indexOf("`: ") + 3;
-        Arrays.fill(said, 0, Math.max(0, behind), true);
+        Arrays.fill(said, 0, Math.min(behind, said.length), true);
     }
 
     private void begin(String name, String from, String to) {
@@ -142,15 +142,23 @@ final class Edges {
         return s.append(" who ").append(x.who()).append(" apart ").append(x.apart()).toString();
     }
 
-    /** What the call answers, and that nothing that can be seen is changed by it. */
-    void refused(String call, TwoLevel x, Answer answer, long want) {
-        String before = seen(x);
-        due(call, answer.of(), want);
-        same("what is seen behind " + call, seen(x), before);
+    /** What the call answers, and that all that can be seen is behind it as it would be without it. */
+    void refused(String call, Maker maker, Answer answer, long want) {
+        TwoLevel x = maker.make();
+        due(call, answer.of(x), want);
+        same("what is seen behind " + call, seen(x), seen(maker.make()));
+    }
+
+    void refused(String call, String text, Answer answer, long want) {
+        refused(call, () -> Check.told(text), answer, want);
+    }
+
+    interface Maker {
+        TwoLevel make();
     }
 
     interface Answer {
-        long of();
+        long of(TwoLevel x);
     }
 
     /** The numbers of the document from a seed on: the k-th one, 0 the first. */
