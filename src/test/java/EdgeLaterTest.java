@@ -663,14 +663,13 @@ final class EdgeLaterTest {
         edges.promise(48, "back");
         edges.says("All (but NOTES and SIGHTS) is as in the IMAGE (nothing to undo then): which DAY it is;");
         TwoLevel x = Check.told(TEXT);
-        x.go(1);
         x.give(0, 1);
         x.keep();
         x.go(9);
+        edges.due("REFUSED behind it", x.count(8), 1);
         x.does(0, 0, true);
-        edges.due("back()", x.back(), 1);
+        edges.due("back()", x.back(), 0);
         TwoLevel y = Check.told(TEXT);
-        y.go(1);
         y.give(0, 1);
         y.back();
         String plain = "^(counts( \\d+){11}) \\d+";

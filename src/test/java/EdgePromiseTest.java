@@ -103,7 +103,7 @@ final class EdgePromiseTest {
         x.note(0, 99, true);
         x.see(1, 0, 99, true);
         x.strike(0);
-        x.known(1);
+        x.known(0);
         x.keep();
         x.give(0, 5);
         x.does(0, 0, true);
